@@ -647,27 +647,29 @@ public final class ErrorBudgets {
             boolean ended = false;
             for (int turn = 0; turn < plans.number; turn++) {
                 int plan = plans.turns[turn];
-                if (plans.hour[plan] <= hour) {
-                    plans.fate[plan] = takePlan(plan);
-                    ended = ended || plans.fate[plan] != WAITS;
+                int fate = fateOf(plan);
+                plans.fate[plan] = fate;
+                if (fate == DONE) {
+                    doRelease(plans.service[plan], plans.size[plan]);
+                } else if (fate == DROPPED) {
+                    droppedPlans[plans.service[plan]]++;
                 }
+                ended = ended || fate != WAITS;
             }
             if (ended) {
                 plans.removeEnded();
             }
         }
 
-        private int takePlan(int plan) {
-            int service = plans.service[plan];
-            if (!isFrozen(service)) {
-                doRelease(service, plans.size[plan]);
+        private int fateOf(int plan) {
+            int late = hour - plans.hour[plan];
+            if (late < 0) {
+                return WAITS;
+            }
+            if (!isFrozen(plans.service[plan])) {
                 return DONE;
             }
-            if (hour - plans.hour[plan] >= settings[PATIENCE]) {
-                droppedPlans[service]++;
-                return DROPPED;
-            }
-            return WAITS;
+            return late >= settings[PATIENCE] ? DROPPED : WAITS;
         }
     }
 

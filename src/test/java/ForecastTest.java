@@ -149,6 +149,9 @@ public final class ForecastTest {
             Check.due("doneAt(" + plan + ")", x.doneAt(plan), due[plan]);
         }
         Check.due("plans", x.count(6), 7);
+        for (int plan = 6; plan >= 0; plan--) {
+            Check.due("doneAt(" + plan + ") again", x.doneAt(plan), due[plan]);
+        }
     }
 
     private static void bestLender() {
@@ -160,6 +163,7 @@ public final class ForecastTest {
         Check.due("minutes", x.bestLender(0, 5001), -2);
         Check.due("the lowest number of two", x.bestLender(0, 100), 1);
         Check.due("not itself", x.bestLender(1, 100), 2);
+        Check.due("the first one", Check.house(900, 500, 500).bestLender(2, 100), 0);
         x.outage(1, 1, 1);
         Check.due("the most left", x.bestLender(0, 100), 2);
         x.budget(2, 5000);

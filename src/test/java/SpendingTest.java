@@ -196,6 +196,9 @@ public final class SpendingTest {
         Check.due("due", x.ofLoan(0, 4), 3);
         Check.due("lent minutes", x.ofLoan(0, 2), 50);
         Check.due("no such loan any more", x.repay(1), -1);
+        x.lend(0, 1, 20, 5);
+        x.repay(0);
+        Check.due("the later one keeps its window", x.ofLoan(0, 4), 5);
     }
 
     private static void repayAsFarAsItCan() {
@@ -229,6 +232,16 @@ public final class SpendingTest {
         x.outage(1, 300, 100);
         x.repay(0);
         Check.due("lender does not thaw by 100", x.ofService(0, 1), 1);
+        // Where 0 minutes are paid, the lender does not thaw either, though it has enough (the setting changed).
+        x = Check.house(100, 100, 1000);
+        x.lend(0, 1, 10, 3);
+        x.outage(0, 90, 100);
+        x.lend(2, 0, 5, 3);
+        x.outage(1, 110, 100);
+        x.set(3, 0);
+        Check.due("nothing is paid", x.repay(0), 11);
+        Check.due("the lender with 5 minutes stays frozen", x.ofService(0, 1), 1);
+        Check.due("the borrower has 0 minutes", x.account(1, 8), 0);
         // A frozen service that has more than its limit (the setting changed) thaws by paying, too.
         x = Check.house(1000, 1000);
         x.outage(1, 600, 100);

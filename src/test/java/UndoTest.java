@@ -1,3 +1,5 @@
+import java.util.function.ToIntFunction;
+
 /** Promises 28 to 30: undo, save, restore. */
 public final class UndoTest {
     public static void main(String[] args) {
@@ -5,6 +7,7 @@ public final class UndoTest {
         undoBringsEverythingBack();
         undoLeavesPadReasonAndSlots();
         everyChangeIsRecorded();
+        everyChangeIsUndone();
         save();
         restore();
         restoreLeavesPadReasonAndHistory();
@@ -36,8 +39,13 @@ public final class UndoTest {
         Check.due("the hour", x.count(0), 3);
     }
 
+    /** A house in which much is different behind some hours. */
     private static ErrorBudgets fullHouse() {
-        ErrorBudgets x = Check.house(100, 1000, 50);
+        ErrorBudgets x = Check.house(100, 1000, 50, 20);
+        x.outage(3, 20, 100);
+        x.release(3, 5, 1);
+        x.plan(3, 9, 20, 5);
+        x.plan(2, 9, 50, 5);
         x.outage(2, 60, 100);
         x.lend(1, 0, 100, 1);
         x.lend(1, 2, 20, 2);
@@ -52,7 +60,7 @@ public final class UndoTest {
         ErrorBudgets x = fullHouse();
         String[] pictures = new String[7];
         pictures[0] = Check.picture(x);
-        x.hours(200);
+        x.hours(150);
         pictures[1] = Check.picture(x);
         x.set(1, 99);
         pictures[2] = Check.picture(x);
@@ -67,7 +75,7 @@ public final class UndoTest {
             Check.due("undo", x.undo(), left);
             Check.holds("state " + left, Check.picture(x).equals(pictures[left]));
         }
-        x.hours(200);
+        x.hours(150);
         Check.holds("the same again", Check.picture(x).equals(pictures[1]));
     }
 
@@ -89,11 +97,12 @@ public final class UndoTest {
         Check.due("the hour", x.count(0), 12);
     }
 
-    /** Counts a change, and undoes it, so that there is room in the history for the next. */
-    private static void isChange(String call, ErrorBudgets x, int answer, int due, int before) {
+    /** Looks at a change that was just made, and undoes it: then the house is as it was. */
+    private static void isChange(String call, ErrorBudgets x, int answer, int due, int before, String picture) {
         Check.due(call, answer, due);
         Check.due(call + " is recorded", x.count(9), before + 1);
         Check.due(call + " is undone", x.undo(), before);
+        Check.holds(call + " is undone wholly", Check.picture(x).equals(picture));
     }
 
     private static void everyChangeIsRecorded() {
@@ -105,19 +114,20 @@ public final class UndoTest {
         x.plan(0, 5, 5, 5);
         int before = x.count(9);
         Check.due("changes", before, 4);
-        isChange("set", x, x.set(0, 168), 168, before);
-        isChange("service", x, x.service(10), 2, before);
-        isChange("budget", x, x.budget(0, 100), 100, before);
-        isChange("outage", x, x.outage(0, 5, 5), 0, before);
-        isChange("release", x, x.release(0, 5, 0), 0, before);
-        isChange("lend", x, x.lend(1, 0, 5, 1), 1, before);
-        isChange("repay", x, x.repay(0), 0, before);
-        isChange("plan", x, x.plan(1, 5, 5, 5), 1, before);
-        isChange("drop", x, x.drop(0), 0, before);
-        isChange("hours", x, x.hours(5), 5, before);
+        String picture = Check.picture(x);
+        isChange("set", x, x.set(0, 168), 168, before, picture);
+        isChange("service", x, x.service(10), 2, before, picture);
+        isChange("budget", x, x.budget(0, 100), 100, before, picture);
+        isChange("outage", x, x.outage(0, 5, 5), 0, before, picture);
+        isChange("release", x, x.release(0, 5, 0), 0, before, picture);
+        isChange("lend", x, x.lend(1, 0, 5, 1), 1, before, picture);
+        isChange("repay", x, x.repay(0), 0, before, picture);
+        isChange("plan", x, x.plan(1, 5, 5, 5), 1, before, picture);
+        isChange("drop", x, x.drop(0), 0, before, picture);
+        isChange("hours", x, x.hours(5), 5, before, picture);
         Check.due("save", x.save(0), 0);
-        isChange("restore", x, x.restore(0), 0, before);
-        isChange("carryOut", x, Check.carryOut(x, "h2;h3;h4"), 3, before);
+        isChange("restore", x, x.restore(0), 0, before, picture);
+        isChange("carryOut", x, Check.carryOut(x, "h2;h3;h4"), 3, before, picture);
         x.wipe();
         x.put('h');
         x.fault();
@@ -133,6 +143,35 @@ public final class UndoTest {
         }
         Check.due("errors are no changes", x.count(9), before - 1);
         Check.due("and cost no history", x.undo(), before - 2);
+    }
+
+    /** The state before the change stands nowhere in the history yet, so nothing noted earlier can stand in for it. */
+    private static void isUndone(String call, ToIntFunction<ErrorBudgets> change) {
+        ErrorBudgets x = Check.house(1000, 1000);
+        x.save(0);
+        x.lend(1, 0, 50, 1);
+        x.plan(0, 5, 5, 5);
+        String before = Check.picture(x);
+        Check.holds(call, change.applyAsInt(x) >= 0);
+        Check.holds(call + " changes something", !Check.picture(x).equals(before));
+        Check.due(call + " is undone", x.undo(), 4);
+        Check.holds(call + " is undone wholly", Check.picture(x).equals(before));
+    }
+
+    private static void everyChangeIsUndone() {
+        Check.promise("28 undo: every change is undone");
+        isUndone("set", x -> x.set(0, 12));
+        isUndone("service", x -> x.service(10));
+        isUndone("budget", x -> x.budget(0, 77));
+        isUndone("outage", x -> x.outage(0, 600, 100));
+        isUndone("release", x -> x.release(0, 5, 0));
+        isUndone("lend", x -> x.lend(1, 0, 5, 1));
+        isUndone("repay", x -> x.repay(0));
+        isUndone("plan", x -> x.plan(1, 5, 5, 5));
+        isUndone("drop", x -> x.drop(0));
+        isUndone("hours", x -> x.hours(500));
+        isUndone("carryOut", x -> Check.carryOut(x, "o1*5%5;h7"));
+        isUndone("restore", x -> x.restore(0));
     }
 
     private static void save() {
@@ -167,7 +206,7 @@ public final class UndoTest {
         x.hours(500);
         x.set(0, 12);
         x.service(20);
-        x.outage(3, 30, 100);
+        x.outage(4, 30, 100);
         String later = Check.picture(x);
         Check.due("restored", x.restore(1), 0);
         Check.holds("as saved", Check.picture(x).equals(saved));
