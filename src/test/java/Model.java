@@ -201,7 +201,7 @@ final class Model {
             case "fault" -> faultOf(pad);
             case "undo" -> undo();
             case "save" -> save(i[0]);
-            default -> throw new IllegalArgumentException(name);
+            default -> look(name, i);
         };
     }
 
@@ -451,36 +451,78 @@ final class Model {
         return now.hour;
     }
 
-    /** What Check.picture() tells of an object, and the reason, the pad and the history. */
-    String picture() {
-        StringBuilder picture = new StringBuilder();
+    private long[] counts() {
         int frozen = 0;
         for (int s = 0; s < now.services.size(); s++) if (now.services.get(s).frozen) frozen += 1 << s;
-        int[] counts = {now.hour, now.window, now.began, now.services.size(), frozen, now.loans.size(), now.plans.size()};
-        for (int count : counts) picture.append(count).append(' ');
-        for (int setting : now.settings) picture.append(setting).append(' ');
-        for (int s = 0; s < now.services.size(); s++) {
-            Service v = now.services.get(s);
-            long[] numbers = {v.budget, v.frozen ? 1 : 0, v.exemptions, 0, 0, 0, 0, 0, v.releases, v.dropped, v.freezes,
-                v.granted, v.borrowed, v.gotBack, v.outages, v.spent, v.lent, v.paid, v.lapsed, v.left()};
-            for (Loan l : now.loans) {
-                if (l.borrower == s) numbers[3]++;
-                if (l.lender == s) numbers[4]++;
-                if (l.borrower == s) numbers[5] += l.owedAndDue[0];
-                if (l.lender == s) numbers[6] += l.owedAndDue[0];
-            }
-            for (Plan p : now.plans) if (p.service == s) numbers[7]++;
-            picture.append("| service ");
-            for (long number : numbers) picture.append(number).append(' ');
-        }
+        long[] counts = {now.hour, now.window, now.began, now.services.size(), frozen, now.loans.size(), now.plans.size(),
+            reason, pad.length(), history.size(), 0, 0, 0, 0, 0, 0, 0, 0};
+        for (int k = 0; k < 8; k++) counts[10 + k] = now.settings[k];
+        return counts;
+    }
+
+    private long[] numbers(int s) {
+        Service v = now.services.get(s);
+        long[] numbers = {v.budget, v.frozen ? 1 : 0, v.exemptions, 0, 0, 0, 0, 0, v.releases, v.dropped, v.freezes};
         for (Loan l : now.loans) {
-            picture.append("| loan ").append(l.lender).append(' ').append(l.borrower).append(' ').append(l.minutes);
-            picture.append(' ').append(l.owedAndDue[0]).append(' ').append(l.owedAndDue[1]).append(' ');
+            if (l.borrower == s) numbers[3]++;
+            if (l.lender == s) numbers[4]++;
+            if (l.borrower == s) numbers[5] += l.owedAndDue[0];
+            if (l.lender == s) numbers[6] += l.owedAndDue[0];
         }
-        for (Plan p : now.plans) {
-            picture.append("| plan ").append(p.service).append(' ').append(p.hour).append(' ').append(p.size);
-            picture.append(' ').append(p.priority).append(' ');
+        for (Plan p : now.plans) if (p.service == s) numbers[7]++;
+        return numbers;
+    }
+
+    private long[] accounts(int s) {
+        Service v = now.services.get(s);
+        return new long[] {v.granted, v.borrowed, v.gotBack, v.outages, v.spent, v.lent, v.paid, v.lapsed, v.left()};
+    }
+
+    private long[] loan(int loan) {
+        Loan l = now.loans.get(loan);
+        return new long[] {l.lender, l.borrower, l.minutes, l.owedAndDue[0], l.owedAndDue[1]};
+    }
+
+    private long[] plan(int plan) {
+        Plan p = now.plans.get(plan);
+        return new long[] {p.service, p.hour, p.size, p.priority};
+    }
+
+    private static long one(long[] row, int what) {
+        return out(what, 0, row.length - 1) ? -2 : row[what];
+    }
+
+    private long look(String name, int[] i) {
+        return switch (name) {
+            case "ofService" -> no(i[0]) ? -1 : one(numbers(i[0]), i[1]);
+            case "account" -> no(i[0]) ? -1 : one(accounts(i[0]), i[1]);
+            case "ofLoan" -> out(i[0], 0, now.loans.size() - 1) ? -1 : one(loan(i[0]), i[1]);
+            case "ofPlan" -> out(i[0], 0, now.plans.size() - 1) ? -1 : one(plan(i[0]), i[1]);
+            case "count" -> one(counts(), i[0]);
+            default -> throw new IllegalArgumentException(name);
+        };
+    }
+
+    private static void append(StringBuilder picture, String title, long[]... rows) {
+        picture.append(title);
+        for (long[] row : rows) for (long number : row) picture.append(number).append(' ');
+    }
+
+    /** What Check.picture() tells of an object. */
+    String picture() {
+        StringBuilder picture = new StringBuilder();
+        long[] counts = counts();
+        for (int what = 0; what < counts.length; what++) {
+            if (what < 7 || what > 9) picture.append(counts[what]).append(' ');
         }
+        for (int s = 0; s < now.services.size(); s++) append(picture, "| service ", numbers(s), accounts(s));
+        for (int l = 0; l < now.loans.size(); l++) append(picture, "| loan ", loan(l));
+        for (int p = 0; p < now.plans.size(); p++) append(picture, "| plan ", plan(p));
         return picture.toString();
+    }
+
+    /** How many calls Check.picture() needs. */
+    int pictureCalls() {
+        return 22 + 22 * now.services.size() + 6 * now.loans.size() + 5 * now.plans.size();
     }
 }

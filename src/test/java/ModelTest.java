@@ -7,7 +7,7 @@ public final class ModelTest {
         "set", "service", "budget", "outage", "outage", "outage", "release", "release", "release", "lend", "lend", "lend",
         "repay", "plan", "plan", "plan", "plan", "drop", "hours", "hours", "hours", "leftIn", "frozenIn", "thawsIn",
         "doneAt", "doneAt", "bestLender", "leastLoan", "safeSize", "put", "wipe", "fault", "text", "text", "undo", "undo",
-        "save", "restore",
+        "save", "restore", "ofService", "ofService", "account", "account", "account", "ofLoan", "ofPlan", "count",
     };
 
     private final Random random;
@@ -17,6 +17,7 @@ public final class ModelTest {
     private final int wild;
     private final ErrorBudgets x = new ErrorBudgets();
     private final Model model = new Model();
+    private int calls = 0;
 
     private ModelTest(int run) {
         random = new Random(run);
@@ -25,7 +26,7 @@ public final class ModelTest {
     }
 
     public static void main(String[] args) {
-        int runs = args.length > 0 ? Integer.parseInt(args[0]) : 300;
+        int runs = args.length > 0 ? Integer.parseInt(args[0]) : 1000;
         for (int run = 0; run < runs; run++) {
             if (!new ModelTest(run).goes(run)) {
                 break;
@@ -34,36 +35,35 @@ public final class ModelTest {
         Check.end("ModelTest");
     }
 
+    /** An object is used for at most 512 calls: many of any kind, and then a look at all that it holds. */
     private boolean goes(int run) {
         StringBuilder told = new StringBuilder();
-        int calls = 0;
-        for (; calls < 500; calls++) {
+        while (calls + model.pictureCalls() < 512 - 20) {
             String name = calls < 4 ? "service" : CALLS[random.nextInt(CALLS.length)];
             if (calls == 4 && random.nextInt(3) > 0) {
-                told.append(" set 0 12");
-                agree(told.toString(), "set", 0, 12 + random.nextInt(30));
+                one(told, "set", 0, 12 + random.nextInt(30));
             }
             boolean agrees = name.equals("text") ? text(told) : one(told, name, arguments(name));
-            boolean same = model.picture().equals(Check.picture(x)) && x.count(7) == model.reason
-                && x.count(8) == model.pad.length() && x.count(9) == model.history.size();
-            if (!agrees || !same) {
-                Check.holds("run " + run + ": the states are the same", same);
-                System.out.println(told + "\n" + model.picture() + "\n" + Check.picture(x));
+            if (!agrees) {
+                System.out.println("run " + run + told);
                 return false;
             }
         }
-        return true;
+        boolean same = model.picture().equals(Check.picture(x)) && x.count(7) == model.reason
+            && x.count(8) == model.pad.length() && x.count(9) == model.history.size();
+        Check.holds("run " + run + ": the states are the same", same);
+        if (!same) {
+            System.out.println(told + "\n" + model.picture() + "\n" + Check.picture(x));
+        }
+        return same;
     }
 
     private boolean one(StringBuilder told, String name, long... a) {
         told.append(' ').append(name).append(Arrays.toString(a));
-        return agree(name + Arrays.toString(a), name, a);
-    }
-
-    private boolean agree(String what, String name, long... a) {
+        calls++;
         long want = model.call(name, a, true);
-        long got = ask(name, a);
-        Check.due(what, got, want);
+        long got = Calls.ask(x, name, a);
+        Check.due(name + Arrays.toString(a), got, want);
         return got == want;
     }
 
@@ -136,6 +136,11 @@ public final class ModelTest {
             case "drop": case "doneAt": return new long[] {plan};
             case "hours": return new long[] {random.nextInt(6) == 0 ? 1 + random.nextInt(1000) : 1 + random.nextInt(30)};
             case "leftIn": return new long[] {service, 1 + random.nextInt(1000)};
+            case "ofService": return new long[] {service, random.nextInt(11)};
+            case "account": return new long[] {service, random.nextInt(9)};
+            case "ofLoan": return new long[] {loan, random.nextInt(5)};
+            case "ofPlan": return new long[] {plan, random.nextInt(4)};
+            case "count": return new long[] {random.nextInt(18)};
             case "bestLender": return new long[] {service, some};
             case "put": return new long[] {33 + random.nextInt(94)};
             case "save": case "restore": return new long[] {random.nextInt(2)};
@@ -161,40 +166,6 @@ public final class ModelTest {
             case 2: return random.nextBoolean() ? Integer.MIN_VALUE : Integer.MAX_VALUE;
             case 3: return random.nextLong() >>> random.nextInt(64);
             default: return random.nextInt();
-        }
-    }
-
-    private long ask(String name, long[] a) {
-        int p = a.length > 0 ? (int) a[0] : 0;
-        int q = a.length > 1 ? (int) a[1] : 0;
-        int r = a.length > 2 ? (int) a[2] : 0;
-        int s = a.length > 3 ? (int) a[3] : 0;
-        switch (name) {
-            case "set": return x.set(p, q);
-            case "service": return x.service(p);
-            case "budget": return x.budget(p, q);
-            case "outage": return x.outage(p, q, r);
-            case "release": return x.release(p, q, r);
-            case "lend": return x.lend(p, q, r, s);
-            case "repay": return x.repay(p);
-            case "plan": return x.plan(p, q, r, s);
-            case "drop": return x.drop(p);
-            case "hours": return x.hours(p);
-            case "leftIn": return x.leftIn(p, q);
-            case "frozenIn": return x.frozenIn(p);
-            case "thawsIn": return x.thawsIn(p);
-            case "doneAt": return x.doneAt(p);
-            case "bestLender": return x.bestLender(p, q);
-            case "leastLoan": return x.leastLoan(p);
-            case "safeSize": return x.safeSize(p);
-            case "put": return x.put(a[0]);
-            case "wipe": return x.wipe();
-            case "fault": return x.fault();
-            case "carryOut": return x.carryOut();
-            case "undo": return x.undo();
-            case "save": return x.save(p);
-            case "restore": return x.restore(p);
-            default: throw new IllegalArgumentException(name);
         }
     }
 }

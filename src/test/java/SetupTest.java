@@ -1,6 +1,7 @@
 /** Promises 1 to 4: a new object, set, service, budget. */
 public final class SetupTest {
     public static void main(String[] args) {
+        constants();
         newObject();
         set();
         settingsFreezeNobody();
@@ -8,6 +9,20 @@ public final class SetupTest {
         budget();
         budgetFreezesNobody();
         Check.end("SetupTest");
+    }
+
+    private static void constants() {
+        Check.promise("the constants");
+        int[] codes = {ErrorBudgets.NO_SUCH, ErrorBudgets.BAD_VALUE, ErrorBudgets.BAD_TEXT, ErrorBudgets.TOO_MANY,
+            ErrorBudgets.REFUSED, ErrorBudgets.NONE};
+        int[] settings = {ErrorBudgets.WINDOW, ErrorBudgets.CARRY, ErrorBudgets.INTEREST, ErrorBudgets.THAW,
+            ErrorBudgets.PENALTY, ErrorBudgets.PATIENCE, ErrorBudgets.LOANS, ErrorBudgets.EXEMPT};
+        for (int i = 0; i < codes.length; i++) {
+            Check.due("the code " + i, codes[i], -1 - i);
+        }
+        for (int i = 0; i < settings.length; i++) {
+            Check.due("the setting " + i, settings[i], i);
+        }
     }
 
     private static void newObject() {
